@@ -64,6 +64,9 @@ public final class ImageTest {
         x.see(-1, 0);
         x.plan(-1, 0);
         x.book(-1, 0);
+        x.see(1, 3);
+        x.plan(2, 1);
+        x.book(1, 8);
         CHECK.due("p27: once more", x.undo(), 2);
         CHECK.due("p27: SEEN again", x.ways(1), 4);
         CHECK.due("p27: the PLAN again", x.ends(0), 3);

@@ -10,6 +10,7 @@ public final class TellTest {
         ranks();
         localGroups();
         bestByCount();
+        bestAlone();
         bestRefused();
         CHECK.end();
     }
@@ -144,6 +145,20 @@ public final class TellTest {
         CHECK.due("p15: neither 1 nor 2", x.best(3, 1, 3), 3);
         x.lose(4);
         CHECK.due("p15: MISSING ones are no matter", x.best(3, 1, 3), 3);
+    }
+
+    /** All others are lost: the PARITY tells the only DATA by any number but 0. */
+    private static void bestAlone() {
+        RepairGroups x = new RepairGroups();
+        x.data(0, 0);
+        Check.parity(x, 0, 0, "0*x0");
+        CHECK.due("p15: alone", x.best(1, 0, 1), 1);
+        CHECK.due("p15: with it", x.best(1, 0, 0), 0);
+        CHECK.due("p15: all lost", x.best(1, 0, 2), 0);
+        CHECK.due("p15: what it tells not", x.best(1, 1, 1), 0);
+        Check.parity(x, 0, 0, "9*x0");
+        CHECK.due("p15: three", x.best(1, 0, 2), 1);
+        CHECK.due("p15: not with x1 in it", x.best(2, 1, 2), 0);
     }
 
     private static void bestRefused() {
