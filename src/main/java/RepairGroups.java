@@ -646,7 +646,7 @@ public final class RepairGroups {
     }
 
     public long read(int tape, int i) {
-        return Tapes.has(tape) && tapes.hasItem(tape, i) ? tapes.items[tape][i] : NO;
+        return tapes.hasItem(tape, i) ? tapes.items[tape][i] : NO;
     }
 
     public int shift(int tape, int i, int other, int j, int n) {
@@ -1353,12 +1353,12 @@ public final class RepairGroups {
         }
 
         boolean hasItem(int tape, int i) {
-            return i >= 0 && i < sizes[tape];
+            return has(tape) && i >= 0 && i < sizes[tape];
         }
 
         /** Whether n items from i on are there; n is taken off the size, for i and n may be too great to be summed. */
         boolean hasRun(int tape, int i, int n) {
-            return n >= 0 && i >= 0 && i <= sizes[tape] - n;
+            return has(tape) && n >= 0 && i >= 0 && i <= sizes[tape] - n;
         }
 
         static long cut(int sort, long v) {
