@@ -1,10 +1,11 @@
 /**
  * Long runs of calls, each answered by the program and by the model. The runs are the same each time:
- * their choices come from a counter that is mixed. The first argument tells how many (200, if there is none), the second the first of them.
+ * their choices come from a counter that is mixed. The first argument tells how many (400, if there is none), the second the first of them.
  */
 public final class ModelTest {
     private static final Check CHECK = new Check("ModelTest");
-    private static final int CALLS = 512;
+    /** One more move may take some 80 calls, and an object is promised for 512 alone. */
+    private static final int CALLS = 430;
 
     private final StringBuilder told = new StringBuilder();
     private final int run;
@@ -12,6 +13,7 @@ public final class ModelTest {
     private Model m = new Model();
     private long state;
     private int nodes;
+    private int calls;
     private boolean isSame = true;
 
     private ModelTest(int run) {
@@ -20,7 +22,7 @@ public final class ModelTest {
     }
 
     public static void main(String[] args) {
-        int runs = args.length > 0 ? Integer.parseInt(args[0]) : 200;
+        int runs = args.length > 0 ? Integer.parseInt(args[0]) : 400;
         int first = args.length > 1 ? Integer.parseInt(args[1]) : 0;
         for (int run = first; run < first + runs; run++) {
             new ModelTest(run).play();
@@ -50,7 +52,7 @@ public final class ModelTest {
             due("field(" + poly + ")", x.field(poly), m.field(poly));
         }
         int most = pick(11);
-        for (int call = 0; call < CALLS && isSame; call++) {
+        while (calls < CALLS && isSame) {
             nodes = m.count(0);
             int what = pick(100);
             if (what < 12) {
@@ -68,6 +70,7 @@ public final class ModelTest {
     }
 
     private void due(String call, long got, long want) {
+        calls++;
         told.append(' ').append(call);
         if (told.length() > 3000) {
             told.delete(0, told.length() - 3000);
@@ -185,6 +188,8 @@ public final class ModelTest {
                     due("undo()", x.undo(), m.undo());
                 } else if (once(2)) {
                     due("image()", x.image(), m.image());
+                } else {
+                    due("count(0)", x.count(0), m.count(0));
                 }
                 break;
         }
@@ -244,6 +249,7 @@ public final class ModelTest {
     /** Dear for the model, so seldom with many NODES. */
     private void askBest(int node, int e) {
         if (nodes > 7 && !once(6)) {
+            calls++;
             return;
         }
         int data = some(5);
@@ -252,6 +258,7 @@ public final class ModelTest {
 
     private void askWays(int node, int part) {
         if (m.count(1) > 3 && !once(m.count(1) == 4 ? 3 : 12)) {
+            calls++;
             return;
         }
         if (once(2)) {
