@@ -280,6 +280,13 @@ public final class ModelTest {
         if (symbolNow >= 0 && !once(3)) {
             symbol = symbolNow;
         }
+        if (once(5)) {
+            plan(0, node);
+            plan(1, node);
+            due("ends(0)", x.ends(0), m.ends(0));
+            due("ends(1)", x.ends(1), m.ends(1));
+            return;
+        }
         switch (pick(3)) {
             case 0:
                 due("see(" + node + ", " + symbol + ")", x.see(node, symbol), m.see(node, symbol));
@@ -288,10 +295,13 @@ public final class ModelTest {
                 due("book(" + node + ", " + symbol + ")", x.book(node, symbol), m.book(node, symbol));
                 break;
             default:
-                int what = some(3);
-                due("plan(" + what + ", " + node + ")", x.plan(what, node), m.plan(what, node));
+                plan(some(3), node);
                 break;
         }
+    }
+
+    private void plan(int what, int node) {
+        due("plan(" + what + ", " + node + ")", x.plan(what, node), m.plan(what, node));
     }
 
     private void tapes() {
