@@ -1,3 +1,5 @@
+import com.sun.management.ThreadMXBean;
+import java.lang.management.ManagementFactory;
 import java.lang.reflect.Array;
 import java.lang.reflect.Field;
 import java.lang.reflect.Modifier;
@@ -9,11 +11,12 @@ import java.util.Set;
 
 /**
  * Rules 7 and 12 of LANGUAGE.md: no call ever throws or fails to end, whatever its arguments and the state,
- * and what an object holds is little and stays so. The choices come from a counter that is mixed.
+ * and what an object and its calls make is little. The choices come from a counter that is mixed.
  */
 public final class StormTest {
     private static final Check CHECK = new Check("StormTest");
     private static final int RUNS = 300, CALLS = 512;
+    private static final int ROOM_OBJECTS = 600_000, ROOM_PARTS = 7_300_000;
     private static final int[] ODD = {Integer.MIN_VALUE, Integer.MIN_VALUE + 1, -65536, -257, -256, -129, -128, -61, -17, -16, -15, -14,
         -13, -12, -11, -10, -6, -5, -4, -3, -2, -1, 15, 16, 17, 18, 19, 20, 25, 31, 32, 33, 59, 60, 61, 63, 64, 99, 100, 101, 127, 128,
         255, 256, 1023, 1024, 65535, 65536, 1 << 30, Integer.MAX_VALUE - 60, Integer.MAX_VALUE - 10, Integer.MAX_VALUE - 1, Integer.MAX_VALUE};
@@ -29,6 +32,7 @@ public final class StormTest {
             new StormTest(run).play(run);
         }
         holdsLittle();
+        makesLittle();
         CHECK.end();
     }
 
@@ -120,19 +124,40 @@ public final class StormTest {
         }
     }
 
-    /** Objects and arrays that one object holds, and their fields and elements, once made and after calls. */
+    /** Objects and arrays that one object holds, and their fields and elements, beside the room that a run has. */
     private static void holdsLittle() throws IllegalAccessException {
         RepairGroups x = new RepairGroups();
-        int[] ahead = held(x);
-        CHECK.yes("objects and arrays: " + ahead[0], ahead[0] <= 150);
-        CHECK.yes("fields and elements: " + ahead[1], ahead[1] <= 4000);
         Twins.FULL.on(x);
         x.undo();
         x.best(9, 0, 5);
         x.ends(1);
-        int[] then = held(x);
-        CHECK.due("objects and arrays after calls", then[0], ahead[0]);
-        CHECK.due("fields and elements after calls", then[1], ahead[1]);
+        int[] held = held(x);
+        CHECK.yes("objects and arrays: " + held[0], held[0] <= ROOM_OBJECTS);
+        CHECK.yes("fields and elements: " + held[1], held[1] <= ROOM_PARTS);
+    }
+
+    /** What 512 calls of one kind make stays in the room, too: a byte a part and 16 an object at least. */
+    private static void makesLittle() {
+        java.lang.management.ThreadMXBean threads = ManagementFactory.getThreadMXBean();
+        if (!(threads instanceof ThreadMXBean) || !((ThreadMXBean) threads).isThreadAllocatedMemorySupported()) {
+            return;
+        }
+        ThreadMXBean counts = (ThreadMXBean) threads;
+        long me = Thread.currentThread().getId();
+        Twins.Call[] dear = {x -> x.best(9, 0, 5), x -> x.ends(1), x -> x.mean(0), x -> x.told(3), x -> x.told(6), x -> x.of(3, 6),
+            x -> x.of(3, 8), x -> x.safe(5), x -> x.odds(5, 0), x -> x.ways(1), x -> x.can(9), x -> x.looked(), x -> x.judge(0, 0),
+            x -> x.image(), x -> x.undo(), x -> x.parity(0, 0), x -> x.repair(9) + x.lose(9), x -> x.shift(0, 0, 0, 1, 59),
+            x -> x.tape(3, 3, 60), x -> x.see(-1, 0) + x.see(0, 0), x -> x.plan(-1, 0) + x.plan(0, 0), x -> x.calc(2, 9, 7)};
+        for (int i = 0; i < dear.length; i++) {
+            RepairGroups x = new RepairGroups();
+            Twins.FULL.on(x);
+            long ahead = counts.getThreadAllocatedBytes(me);
+            for (int call = 0; call < CALLS; call++) {
+                dear[i].on(x);
+            }
+            long made = counts.getThreadAllocatedBytes(me) - ahead;
+            CHECK.yes("bytes that 512 of the dear calls " + i + " make: " + made, made <= 16L * ROOM_OBJECTS + ROOM_PARTS);
+        }
     }
 
     private static int[] held(Object first) throws IllegalAccessException {
