@@ -143,7 +143,6 @@ public final class StormTest {
             return;
         }
         ThreadMXBean counts = (ThreadMXBean) threads;
-        long me = Thread.currentThread().getId();
         Twins.Call[] dear = {x -> x.best(9, 0, 5), x -> x.ends(1), x -> x.mean(0), x -> x.told(3), x -> x.told(6), x -> x.of(3, 6),
             x -> x.of(3, 8), x -> x.safe(5), x -> x.odds(5, 0), x -> x.ways(1), x -> x.can(9), x -> x.looked(), x -> x.judge(0, 0),
             x -> x.image(), x -> x.undo(), x -> x.parity(0, 0), x -> x.repair(9) + x.lose(9), x -> x.shift(0, 0, 0, 1, 59),
@@ -151,11 +150,11 @@ public final class StormTest {
         for (int i = 0; i < dear.length; i++) {
             RepairGroups x = new RepairGroups();
             Twins.FULL.on(x);
-            long ahead = counts.getThreadAllocatedBytes(me);
+            long ahead = counts.getCurrentThreadAllocatedBytes();
             for (int call = 0; call < CALLS; call++) {
                 dear[i].on(x);
             }
-            long made = counts.getThreadAllocatedBytes(me) - ahead;
+            long made = counts.getCurrentThreadAllocatedBytes() - ahead;
             CHECK.yes("bytes that 512 of the dear calls " + i + " make: " + made, made <= 16L * ROOM_OBJECTS + ROOM_PARTS);
         }
     }
